@@ -576,7 +576,6 @@ public final class SquopPiles {
             if (isWink(left)) {
                 above[left] = NONE;
             }
-            below[lowest] = NONE;
             // They leave their cell first: it may be the one that they come to.
             setCells(lowest, NONE);
             if (to == CUP) {

@@ -21,6 +21,7 @@ final class GameTests {
         checks.test("3 lift: every direction", this::liftDirections);
         checks.test("3 lift: frees, and covers in order", this::liftOrder);
         checks.test("3 lift: into the cup", this::liftToCup);
+        checks.test("3 lift: winks potted together lie apart then", this::liftApart);
         checks.test("3 lift: wrong arguments", this::liftArguments);
         checks.test("3 lift: wrong states", this::liftStates);
         checks.test("4 set", this::setting);
@@ -243,6 +244,26 @@ final class GameTests {
         checks.due("it is not the turn again", 1, game.count(0));
         checks.due("no flight", 0, game.wink(3, 5));
         checks.due("the cup has no pile", -1, game.pile(6, 6, 1));
+    }
+
+    private void liftApart() {
+        SquopPiles game = new SquopPiles();
+        game.put(11, 5, 5);
+        game.put(7, 5, 5);
+        game.put(3, 5, 5);
+        game.lift(5, 5, 3, 3);
+        game.put(11, 2, 2);
+        game.put(15, 2, 2);
+        checks.due("7 out of the cup", 3, game.put(7, 2, 2));
+        checks.due("11 is still covered", 1, game.wink(11, 4));
+        checks.due("15 is covered", 1, game.wink(15, 4));
+        checks.due("3 out of the cup", 1, game.put(3, 9, 9));
+        checks.due("7 is still free", 0, game.wink(7, 4));
+        checks.due("7 is on top", 7, game.pile(2, 2, 1));
+        checks.due("the place of 3", 0, game.wink(3, 3));
+        game.put(7, 1, 1);
+        checks.due("15 is free", 0, game.wink(15, 4));
+        checks.due("3 is free", 0, game.wink(3, 4));
     }
 
     private void liftArguments() {

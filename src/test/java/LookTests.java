@@ -12,6 +12,7 @@ final class LookTests {
         checks.test("13 wink: why it can not fly", this::winkReasons);
         checks.test("13 wink: wrong arguments", this::winkRefused);
         checks.test("14 pile", this::pile);
+        checks.test("14 pile: the wink 0", this::pileOfZero);
         checks.test("14 pile: wrong arguments", this::pileRefused);
         checks.test("15 colour: potted, covered, free", this::colourWinks);
         checks.test("15 colour: points", this::colourPoints);
@@ -98,6 +99,30 @@ final class LookTests {
         game.put(11, 12, 5);
         game.put(6, 12, 5);
         checks.due("all colours", 15, game.pile(12, 5, 3));
+    }
+
+    /** The number 0 is a wink as well as any other one. */
+    private void pileOfZero() {
+        SquopPiles game = new SquopPiles();
+        checks.due("the bottom of the base", 0, game.pile(0, 0, 2));
+        Games.pot(game, 0, 3);
+        game.put(0, 3, 4);
+        int[] alone = {1, 0, 0, 1};
+        int[] covered = {2, 7, 0, 3};
+        for (int what = 0; what < 4; what++) {
+            checks.due("alone, " + what, alone[what], game.pile(3, 4, what));
+        }
+        game.put(7, 3, 4);
+        for (int what = 0; what < 4; what++) {
+            checks.due("covered, " + what, covered[what], game.pile(3, 4, what));
+        }
+        checks.due("it is below 1", 1, game.colour(1, 6));
+        checks.due("covered, pile by pile", 9, game.count(3));
+        checks.due("covered, wink by wink", 9, game.count(4));
+        checks.due("piles", 4, game.count(5));
+        game.put(7, 9, 9);
+        checks.due("its flight", 13 * 4 + 4, game.fly(0, 2, 1));
+        checks.due("flights", 1, game.count(7));
     }
 
     private void pileRefused() {

@@ -16,6 +16,7 @@ final class WouldBeTests {
         checks.test("19 ifFlown: wrong arguments", this::ifFlownRefused);
         checks.test("20 best: pots what it can", this::bestPots);
         checks.test("20 best: the more covered, then the least number", this::bestTies);
+        checks.test("20 best: though all points are below 0", this::bestOfBad);
         checks.test("20 best: none can fly", this::bestNone);
         checks.test("21 flightsTo", this::flightsTo);
         checks.test("21 flightsTo: from every cell", this::flightsFromEveryCell);
@@ -87,6 +88,17 @@ final class WouldBeTests {
         game.put(2, 12, 0);
         checks.due("2 lies on 15", 7, game.ifFlown(3, 2, 1, 1));
         checks.due("2 flies away from 15", 6, game.ifFlown(2, 4, 1, 1));
+        game = new SquopPiles();
+        game.put(3, 9, 0);
+        game.put(11, 5, 0);
+        game.put(10, 9, 9);
+        game.put(2, 2, 0);
+        game.fly(2, 4, 1);
+        checks.due("of the team 0, told for 1", 2, game.ifFlown(7, 4, 1, 1));
+        checks.due("one of them more", 3, game.ifFlown(7, 6, 2, 1));
+        game.fly(7, 4, 1);
+        game.fly(10, 0, 1);
+        checks.due("told for 3", 2, game.ifFlown(15, 2, 1, 1));
     }
 
     /** What is told before is what count() tells behind the flight itself. */
@@ -179,6 +191,14 @@ final class WouldBeTests {
             }
         }
         return best;
+    }
+
+    private void bestOfBad() {
+        SquopPiles game = new SquopPiles();
+        Games.pot(game, 1, 3);
+        Games.pot(game, 3, 3);
+        checks.due("the points of the best one", 3 - 18, game.ifFlown(3, 3, 5, 0));
+        checks.due("the best one", 335, game.best());
     }
 
     private void bestNone() {
