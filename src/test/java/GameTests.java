@@ -264,6 +264,7 @@ final class GameTests {
         game.put(7, 1, 1);
         checks.due("15 is free", 0, game.wink(15, 4));
         checks.due("3 is free", 0, game.wink(3, 4));
+        checks.due("0 is covered on its base", 1, game.wink(0, 4));
     }
 
     private void liftArguments() {

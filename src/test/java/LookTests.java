@@ -120,6 +120,13 @@ final class LookTests {
         checks.due("covered, pile by pile", 9, game.count(3));
         checks.due("covered, wink by wink", 9, game.count(4));
         checks.due("piles", 4, game.count(5));
+        game.put(15, 3, 4);
+        game.put(11, 3, 4);
+        game.put(14, 3, 4);
+        checks.due("the highest pile", 5, game.count(6));
+        game.undo();
+        game.undo();
+        game.undo();
         game.put(7, 9, 9);
         checks.due("its flight", 13 * 4 + 4, game.fly(0, 2, 1));
         checks.due("flights", 1, game.count(7));
