@@ -12,6 +12,11 @@ public final class AllTests {
         new PastTests(checks).all();
         new LookTests(checks).all();
         new WouldBeTests(checks).all();
+        new RangeTests(checks).all();
+        new RefusalTests(checks).all();
+        new MatEdgeTests(checks).all();
+        new StoreEdgeTests(checks).all();
+        new LookEdgeTests(checks).all();
         new ModelTests(checks).all();
         new FaceTests(checks).all();
         new LanguageTests(checks, source).all();

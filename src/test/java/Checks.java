@@ -10,6 +10,11 @@ final class Checks {
         void run();
     }
 
+    /** A call of which one argument is left open. */
+    interface Open {
+        void of(int number);
+    }
+
     private int passed = 0;
     private int failed = 0;
     private String name = "";
@@ -69,6 +74,22 @@ final class Checks {
 
     void noState(SquopPiles game, String what, Call call) {
         refused(game, IllegalStateException.class, what, call);
+    }
+
+    /** One below the least number, one above the greatest, and the ends of all numbers are no such index. */
+    void noIndexBeyond(SquopPiles game, int least, int most, Open call) {
+        beyond(game, IndexOutOfBoundsException.class, least, most, call);
+    }
+
+    /** One below the least number, one above the greatest, and the ends of all numbers are out of range. */
+    void noArgumentBeyond(SquopPiles game, int least, int most, Open call) {
+        beyond(game, IllegalArgumentException.class, least, most, call);
+    }
+
+    private void beyond(SquopPiles game, Class<? extends RuntimeException> want, int least, int most, Open call) {
+        for (int number : new int[] {least - 1, most + 1, Integer.MIN_VALUE, Integer.MAX_VALUE}) {
+            refused(game, want, "the number " + number, () -> call.of(number));
+        }
     }
 
     private void complain(String text) {

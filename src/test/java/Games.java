@@ -22,6 +22,28 @@ final class Games {
         }
     }
 
+    /** It is the turn of the colour; each one before it has flown its wink 3 away from its base. */
+    static SquopPiles turnOf(int colour) {
+        SquopPiles game = new SquopPiles();
+        int[] directions = {2, 4, 0};
+        for (int before = 0; before < colour; before++) {
+            game.fly(4 * before + 3, directions[before], 1);
+        }
+        return game;
+    }
+
+    /** A pile of so many winks, the colours in turn, the top one of the colour 0, to whom it is the turn. */
+    static SquopPiles withPile(int x, int y, int many) {
+        SquopPiles game = new SquopPiles();
+        int[] next = {3, 3, 3, 3};
+        for (int left = many - 1; left >= 0; left--) {
+            int colour = left % 4;
+            game.put(4 * colour + next[colour], x, y);
+            next[colour]--;
+        }
+        return game;
+    }
+
     /** The game is over: the colour 2 has all its winks potted. */
     static SquopPiles over() {
         SquopPiles game = new SquopPiles();

@@ -15,6 +15,7 @@ final class TurnTests {
         checks.test("turns: the game is over by a flight", this::overByFlight);
         checks.test("turns: the game is over by a lift", this::overByLift);
         checks.test("turns: a lost turn behind the last flight", this::lostBehindTheLast);
+        checks.test("turns: a colour without a wink left is not passed over", this::lostByThePotted);
         checks.test("turns: all winks are potted", this::allPotted);
     }
 
@@ -114,6 +115,23 @@ final class TurnTests {
         Games.pot(game, 0, 3);
         checks.due("the last one", 169, game.fly(0, 3, 6));
         checks.due("passed over", 0, game.colour(1, 5));
+    }
+
+    /** It is no next colour, so that the lost turn is not passed over. */
+    private void lostByThePotted() {
+        SquopPiles game = new SquopPiles();
+        game.fly(3, 2, 1);
+        game.fly(7, 7, 1);
+        game.fly(11, 0, 1);
+        game.fly(15, 0, 1);
+        checks.due("lost by 1", 1, game.colour(1, 5));
+        Games.pot(game, 1, 3);
+        game.put(4, 7, 7);
+        game.put(3, 7, 7);
+        game.lift(7, 7, 2, 7);
+        checks.due("over", 1, game.count(1));
+        checks.due("its last one is potted", 4, game.colour(1, 0));
+        checks.due("still lost", 1, game.colour(1, 5));
     }
 
     private void allPotted() {
