@@ -16,6 +16,7 @@ final class TurnTests {
         checks.test("turns: the game is over by a lift", this::overByLift);
         checks.test("turns: a lost turn behind the last flight", this::lostBehindTheLast);
         checks.test("turns: a colour without a wink left is not passed over", this::lostByThePotted);
+        checks.test("turns: the one behind a colour without a wink left is passed over", this::lostBehindThePotted);
         checks.test("turns: all winks are potted", this::allPotted);
     }
 
@@ -132,6 +133,22 @@ final class TurnTests {
         checks.due("over", 1, game.count(1));
         checks.due("its last one is potted", 4, game.colour(1, 0));
         checks.due("still lost", 1, game.colour(1, 5));
+    }
+
+    /** The turn goes on behind the colour that has none, to 2, which has lost one, and then to 3. */
+    private void lostBehindThePotted() {
+        SquopPiles game = new SquopPiles();
+        game.fly(3, 2, 1);
+        game.fly(7, 4, 1);
+        game.fly(11, 1, 1);
+        game.fly(15, 0, 1);
+        checks.due("lost by 2", 1, game.colour(2, 5));
+        Games.pot(game, 1, 3);
+        game.put(4, 7, 7);
+        game.put(3, 7, 7);
+        game.lift(7, 7, 2, 7);
+        checks.due("over", 1, game.count(1));
+        checks.due("passed over", 0, game.colour(2, 5));
     }
 
     private void allPotted() {
