@@ -60,7 +60,7 @@ final class RefusalTests {
     /** A hash of all that a game still can tell: what is, each saved state, and the snapshot. */
     private static long traceOf(SquopPiles game) {
         long trace = game.digest();
-        while (game.count(13) > 0) {
+        for (int k = 0; k < 6 && game.count(13) > 0; k++) {
             game.undo();
             trace = 31 * trace + game.digest();
         }
