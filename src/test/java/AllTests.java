@@ -1,10 +1,11 @@
-/** Runs every test of the project; its argument is the path of the program's file. */
+/** Runs every test of the project; its arguments are the paths of the program's file and of README.md. */
 public final class AllTests {
     private AllTests() {
     }
 
     public static void main(String[] args) throws java.io.IOException {
         String source = args.length > 0 ? args[0] : "src/main/java/SquopPiles.java";
+        String readme = args.length > 1 ? args[1] : "README.md";
         Checks checks = new Checks();
         new GameTests(checks).all();
         new TurnTests(checks).all();
@@ -20,6 +21,7 @@ public final class AllTests {
         new ModelTests(checks).all();
         new FaceTests(checks).all();
         new LanguageTests(checks, source).all();
+        new ReadmeTests(checks, readme).all();
         System.out.println("project: " + checks.summary());
         if (checks.failedTests() > 0) {
             System.exit(1);
